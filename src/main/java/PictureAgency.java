@@ -36,8 +36,8 @@ public final class PictureAgency {
     private final Captions captions;
     private final Log leaves;
     private final Log embargoes;
-    private final Tape tape;
     private final Reader reader;
+    private final Tape tape;
     private final Shelf shelf;
     private final Ledger ledger;
     private final int[] rates;
@@ -50,8 +50,8 @@ public final class PictureAgency {
         captions = new Captions();
         leaves = new Log(MOST_LEAVES);
         embargoes = new Log(MOST_EMBARGOES);
-        tape = new Tape();
-        reader = new Reader(tape);
+        reader = new Reader();
+        tape = reader.tape;
         shelf = new Shelf();
         ledger = new Ledger();
         rates = new int[ALL_USES];
@@ -716,7 +716,7 @@ public final class PictureAgency {
         private static final int REPEATED = 2;
         private static final int OUT_OF_RANGE = 3;
 
-        private final Tape tape;
+        private final Tape tape = new Tape();
         private boolean hasRead;
         private int failure;
         private int place = NONE;
@@ -728,10 +728,6 @@ public final class PictureAgency {
         private int start;
         private int behind;
         private int number;
-
-        Reader(Tape tape) {
-            this.tape = tape;
-        }
 
         /** The terms that the tape tells, or null if it has a fault. */
         Terms readTape(int wordsThatAre) {

@@ -116,6 +116,12 @@ public final class TextsTest {
         reads("lan 1;", 1, 0);
         reads("lands 1;", 1, 0);
         reads("landuse 1;", 1, 0);
+        for (char c : "azAZmM".toCharArray()) {
+            reads("land" + c + " 1;", 1, 0);
+        }
+        for (char c : "@[`{/:".toCharArray()) {
+            reads("land" + c + " 1;", 1, 4);
+        }
         reads("x", 1, 0);
         reads("  x", 1, 2);
         reads("5;", 1, 0);
