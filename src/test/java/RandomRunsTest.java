@@ -1,17 +1,19 @@
 import java.util.Arrays;
 import java.util.Random;
 
-/** All promises: runs of 512 random calls, the same in every run of the test, against the plain agency. */
+/** All promises: runs of up to 512 random calls, the same in every run of the test, against the plain agency. */
 public final class RandomRunsTest {
     private static final Checks C = new Checks("RandomRunsTest");
     private static final int RUNS = 1500;
-    private static final int CALLS = 512;
+    private static final int MOST_CALLS = 512;
+    private static final int CALLS_OF_A_TEXT = 9;
     private static final int[] ODD = {-2, -1, 40, 41, 60, 65536, 100001, Integer.MAX_VALUE, Integer.MIN_VALUE};
 
     private final Random random;
     private final int kind;
     private final PictureAgency x = new PictureAgency();
     private final PlainAgency plain = new PlainAgency();
+    private int calls;
 
     private RandomRunsTest(int seed) {
         random = new Random(seed);
@@ -26,7 +28,8 @@ public final class RandomRunsTest {
     }
 
     private void run(int seed) {
-        for (int call = 0; call < CALLS; call++) {
+        // What an object answers after its 512th call is free.
+        while (calls + CALLS_OF_A_TEXT <= MOST_CALLS) {
             call(seed, pick());
         }
     }
@@ -92,6 +95,7 @@ public final class RandomRunsTest {
     }
 
     private void same(int seed, int method, int[] args, long got, long want) {
+        calls++;
         C.due("run " + seed + ", promise " + method + " with " + Arrays.toString(args), got, want);
     }
 
